@@ -13,6 +13,7 @@ public final class PromiseTest {
         promise3();
         promise4();
         promise5();
+        promise5AtFirst();
         promise6();
         promise7();
         promise7BonusesAndOrder();
@@ -246,6 +247,25 @@ public final class PromiseTest {
             outOfRange("5: setScale(" + b[0] + ", " + b[1] + ", " + b[2] + ")",
                     o -> o.setScale(b[0], b[1], b[2]));
         }
+    }
+
+    /** The step, the floor and the charge at first, which no call tells. */
+    private static void promise5AtFirst() {
+        ProfitsOffice office = new ProfitsOffice();
+        office.begin(20, 1000, 0);
+        office.run(-200);
+        // 800 less a charge of 4; after one of twenty years 620 thousandths of 796 are 493 (of 493.52).
+        Check.equal("5: the charge at first", 796, office.generation(0, 20));
+        Check.equal("5: the floor at first", 500, office.worth(0));
+        office.setRates(0, 0);
+        office.begin(2, 1000, 0);
+        office.run(0);
+        office.run(0);
+        office.begin(2, 1000, 0);
+        Check.equal("5: a ratio of 1000", 1000, office.lastRatio(2));
+        office.run(200);
+        office.run(200);
+        Check.equal("5: the step at first", 1100, office.lastRatio(2));
     }
 
     private static void promise6() {
@@ -552,6 +572,15 @@ public final class PromiseTest {
         office.setScale(1000, 100, 1000);
         Check.equal("16: at the floor of 1000", 200, office.worth(0));
         Check.equal("16: as surrendered", 200, office.surrender(0));
+
+        ProfitsOffice longer = new ProfitsOffice();
+        longer.setRates(0, 0);
+        longer.begin(7, 1000, 0);
+        for (int years = 1; years < 7; years++) {
+            longer.run(0);
+        }
+        // After six of seven years 600 + 342 (of 342.86).
+        Check.equal("16: its part by its years, rounded down", 5652, longer.worth(0));
 
         badPolicies("16: worth", (o, p) -> o.worth(p));
         Check.refused("16: surrendered already", STATE, PromiseTest::mixed, o -> o.worth(1));
