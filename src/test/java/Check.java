@@ -4,17 +4,26 @@ import java.util.function.Supplier;
 /** What the tests share: comparing answers, comparing whole offices, and expecting exceptions. */
 final class Check {
     private static int wrong = 0;
+    private static int checks = 0;
+    private static String where = "";
 
     private Check() {
     }
 
+    /** Said ahead of all that is found wrong from now on. */
+    static void within(String test) {
+        where = test;
+    }
+
     static void equal(String what, long due, long got) {
+        checks++;
         if (due != got) {
             fail(what + ": due is " + due + ", answered was " + got);
         }
     }
 
     static void isTrue(String what, boolean holds) {
+        checks++;
         if (!holds) {
             fail(what);
         }
@@ -23,8 +32,12 @@ final class Check {
     static void fail(String what) {
         wrong++;
         if (wrong <= 50) {
-            System.out.println(what);
+            System.out.println(where + what);
         }
+    }
+
+    static int madeSoFar() {
+        return checks;
     }
 
     static int wrongSoFar() {

@@ -1,12 +1,5 @@
-import java.util.function.Consumer;
-import java.util.function.Supplier;
-
 /** Each promise of the document by itself, with answers that were worked out by hand. */
 public final class PromiseTest {
-    private static final Class<IllegalArgumentException> ARGUMENT = IllegalArgumentException.class;
-    private static final Class<IllegalStateException> STATE = IllegalStateException.class;
-    private static final Class<IndexOutOfBoundsException> INDEX = IndexOutOfBoundsException.class;
-
     public static void main(String[] args) {
         promise1();
         promise2();
@@ -30,59 +23,6 @@ public final class PromiseTest {
         promise18To20();
         promise21();
         Check.end("PromiseTest");
-    }
-
-    /** Year 2; policy 0 has run for 2 of 5 years, 1 is surrendered, 2 has matured, 3 is new. */
-    private static ProfitsOffice mixed() {
-        ProfitsOffice office = new ProfitsOffice();
-        office.setRates(30, 7);
-        office.setScale(1100, 120, 300);
-        office.endow(5000);
-        office.begin(5, 100, 1000);
-        office.begin(5, 50, 0);
-        office.begin(2, 200, 100);
-        office.run(50);
-        office.surrender(1);
-        office.run(40);
-        office.begin(3, 10, 10);
-        return office;
-    }
-
-    private static ProfitsOffice full() {
-        ProfitsOffice office = mixed();
-        while (office.policies() < 30) {
-            office.begin(4, 10, 10);
-        }
-        return office;
-    }
-
-    private static ProfitsOffice inYear40() {
-        ProfitsOffice office = mixed();
-        while (office.year() < 40) {
-            office.run(3);
-        }
-        office.begin(2, 10, 10);
-        return office;
-    }
-
-    private static void badPolicies(String what, ToUse call) {
-        int[] none = {-1, -2, 4, 5, 29, 30, 31, Integer.MAX_VALUE, Integer.MIN_VALUE};
-        for (int policy : none) {
-            Check.refused(what + "(" + policy + ")", INDEX, PromiseTest::mixed, o -> call.use(o, policy));
-        }
-        Check.refused(what + "(0) of no policies", INDEX, ProfitsOffice::new, o -> call.use(o, 0));
-        Check.refused(what + "(30) of 30 policies", INDEX, PromiseTest::full, o -> call.use(o, 30));
-    }
-
-    private interface ToUse {
-        void use(ProfitsOffice office, int policy);
-    }
-
-    private static void outOfRange(String what, Consumer<ProfitsOffice> call) {
-        Check.refused(what, ARGUMENT, PromiseTest::mixed, call);
-        Check.refused(what + " of a new office", ARGUMENT, ProfitsOffice::new, call);
-        Check.refused(what + " of a full office", ARGUMENT, PromiseTest::full, call);
-        Check.refused(what + " in the year 40", ARGUMENT, PromiseTest::inYear40, call);
     }
 
     private static void promise1() {
@@ -121,25 +61,8 @@ public final class PromiseTest {
             Check.equal("2: numbers rise", number, office.begin(3, 1, 0));
         }
         Check.equal("2: thirty", 30, office.policies());
-        ProfitsOffice last = inYear40();
+        ProfitsOffice last = Offices.inYear40();
         Check.equal("2: in the year 40 too", 5, last.begin(2, 1, 0));
-
-        int[][] bad = {{1, 1, 0}, {21, 1, 0}, {0, 1, 0}, {-2, 1, 0}, {2, 0, 0}, {2, -1, 0}, {2, 1001, 0},
-            {2, 1, -1}, {2, 1, 100001}, {Integer.MIN_VALUE, 1, 0}, {Integer.MAX_VALUE, 1, 0},
-            {2, Integer.MIN_VALUE, 0}, {2, Integer.MAX_VALUE, 0}, {2, 1, Integer.MIN_VALUE},
-            {2, 1, Integer.MAX_VALUE}, {1, 0, -1}};
-        for (int[] b : bad) {
-            outOfRange("2: begin(" + b[0] + ", " + b[1] + ", " + b[2] + ")", o -> o.begin(b[0], b[1], b[2]));
-        }
-        Check.refused("2: a policy more than 30", STATE, PromiseTest::full, o -> o.begin(2, 1, 0));
-        Supplier<ProfitsOffice> allClosed = () -> {
-            ProfitsOffice o = full();
-            for (int i = 0; i < 6; i++) {
-                o.run(0);
-            }
-            return o;
-        };
-        Check.refused("2: closed policies count too", STATE, allClosed, o -> o.begin(2, 1, 0));
     }
 
     private static void promise3() {
@@ -190,12 +113,6 @@ public final class PromiseTest {
         none.run(-1);
         Check.equal("3: nothing is worth 0", 0, none.surrender(0));
         Check.equal("3: and 0 is paid", 0, none.paid(0));
-
-        badPolicies("3: surrender", (o, p) -> o.surrender(p));
-        Check.refused("3: surrendered already", STATE, PromiseTest::mixed, o -> o.surrender(1));
-        Check.refused("3: matured already", STATE, PromiseTest::mixed, o -> o.surrender(2));
-        Check.refused("3: not a year old", STATE, PromiseTest::mixed, o -> o.surrender(3));
-        Check.refused("3: not a year old in the year 40", STATE, PromiseTest::inYear40, o -> o.surrender(4));
     }
 
     private static void promise4() {
@@ -213,12 +130,6 @@ public final class PromiseTest {
         office.run(0);
         Check.equal("4: no charge", 1983, office.generation(0, 4));
         Check.equal("4: no bonus", 33, office.bonuses(0));
-
-        int[][] bad = {{-1, 5}, {201, 5}, {20, -1}, {20, 101}, {Integer.MIN_VALUE, 5}, {Integer.MAX_VALUE, 5},
-            {20, Integer.MIN_VALUE}, {20, Integer.MAX_VALUE}, {150, 101}, {201, 50}};
-        for (int[] b : bad) {
-            outOfRange("4: setRates(" + b[0] + ", " + b[1] + ")", o -> o.setRates(b[0], b[1]));
-        }
     }
 
     private static void promise5() {
@@ -238,15 +149,6 @@ public final class PromiseTest {
         // The target is 180 times 1333 / 1000 = 239 (of 239.94), and its ratio 1195.
         Check.equal("5: the ratio by the scale", 1195, office.lastRatio(2));
         Check.equal("5: payout by the scale", 239, office.paid(0));
-
-        int[][] bad = {{499, 100, 500}, {1501, 100, 500}, {-1000, 100, 500}, {1000, -1, 500}, {1000, 1001, 500},
-            {1000, 100, -1}, {1000, 100, 1001}, {Integer.MIN_VALUE, 100, 500}, {Integer.MAX_VALUE, 100, 500},
-            {1000, Integer.MIN_VALUE, 500}, {1000, Integer.MAX_VALUE, 500}, {1000, 100, Integer.MIN_VALUE},
-            {1000, 100, Integer.MAX_VALUE}, {1400, 900, 1001}, {1400, 1001, 900}, {499, 900, 900}};
-        for (int[] b : bad) {
-            outOfRange("5: setScale(" + b[0] + ", " + b[1] + ", " + b[2] + ")",
-                    o -> o.setScale(b[0], b[1], b[2]));
-        }
     }
 
     /** The step, the floor and the charge at first, which no call tells. */
@@ -292,11 +194,6 @@ public final class PromiseTest {
         rich.run(200);
         // 450000000 times 1.2 to the 9th, 5.159780352, which a whole number has to hold exactly.
         Check.equal("6: more than an int holds", 2321901158L, rich.estate());
-
-        int[] bad = {-1000001, 1000001, Integer.MIN_VALUE, Integer.MAX_VALUE};
-        for (int amount : bad) {
-            outOfRange("6: endow(" + amount + ")", o -> o.endow(amount));
-        }
     }
 
     private static void promise7() {
@@ -328,12 +225,6 @@ public final class PromiseTest {
         best.run(-200);
         // 2194 - 439 (of 438.8) = 1755, less 8 (of 8.775); the ratio is 873 (of 873.5).
         Check.equal("7: at the rate of -200", 1746, best.paid(0));
-
-        int[] bad = {-201, 201, Integer.MIN_VALUE, Integer.MAX_VALUE};
-        for (int rate : bad) {
-            outOfRange("7: run(" + rate + ")", o -> o.run(rate));
-        }
-        Check.refused("7: in the year 40", STATE, PromiseTest::inYear40, o -> o.run(0));
     }
 
     private static void promise7BonusesAndOrder() {
@@ -446,25 +337,24 @@ public final class PromiseTest {
             }
         }
         Check.equal("8: thirty years", 30, office.year());
-        Check.equal("8: the last year", 40, inYear40().year());
+        Check.equal("8: the last year", 40, Offices.inYear40().year());
     }
 
     private static void promise9() {
-        Check.equal("9: of all states", 4, mixed().policies());
-        Check.equal("9: the most", 30, full().policies());
+        Check.equal("9: of all states", 4, Offices.mixed().policies());
+        Check.equal("9: the most", 30, Offices.full().policies());
     }
 
     private static void promise10() {
-        ProfitsOffice office = mixed();
+        ProfitsOffice office = Offices.mixed();
         Check.equal("10: in force", ProfitsOffice.IN_FORCE, office.stateOf(0));
         Check.equal("10: surrendered", ProfitsOffice.SURRENDERED, office.stateOf(1));
         Check.equal("10: matured", ProfitsOffice.MATURED, office.stateOf(2));
         Check.equal("10: new", ProfitsOffice.IN_FORCE, office.stateOf(3));
-        badPolicies("10: stateOf", (o, p) -> o.stateOf(p));
     }
 
     private static void promise11() {
-        ProfitsOffice office = mixed();
+        ProfitsOffice office = Offices.mixed();
         // 1000 at 30 thousandths: 30, then 30 (of 30.9). 100: 3, then 3 (of 3.09).
         Check.equal("11: in force", 60, office.bonuses(0));
         Check.equal("11: of no sum", 0, office.bonuses(1));
@@ -476,7 +366,6 @@ public final class PromiseTest {
         office.surrender(0);
         office.run(0);
         Check.equal("11: kept when surrendered", 91, office.bonuses(0));
-        badPolicies("11: bonuses", (o, p) -> o.bonuses(p));
     }
 
     private static void promise12And13() {
@@ -520,8 +409,6 @@ public final class PromiseTest {
         Check.isTrue("12: more than an int may hold on the way", most.shareOf(29) >= 185680
                 && most.shareOf(29) <= 185688);
         Check.isTrue("12: and its generation", most.generation(0, 20) / 30 == most.shareOf(29));
-        badPolicies("12: shareOf", (o, p) -> o.shareOf(p));
-        badPolicies("13: shareAlone", (o, p) -> o.shareAlone(p));
     }
 
     private static void promise14() {
@@ -539,22 +426,16 @@ public final class PromiseTest {
         Check.equal("14: by year", 5, office.generation(1, 2));
         Check.equal("14: no such term", 0, office.generation(1, 20));
         Check.equal("14: no such year", 0, office.generation(40, 2));
-        int[][] bad = {{-1, 2}, {41, 2}, {0, 1}, {0, 21}, {Integer.MIN_VALUE, 2}, {Integer.MAX_VALUE, 2},
-            {0, Integer.MIN_VALUE}, {0, Integer.MAX_VALUE}, {0, -2}, {0, 0}};
-        for (int[] b : bad) {
-            outOfRange("14: generation(" + b[0] + ", " + b[1] + ")", o -> o.generation(b[0], b[1]));
-        }
     }
 
     private static void promise15() {
-        ProfitsOffice office = mixed();
+        ProfitsOffice office = Offices.mixed();
         Check.equal("15: in force", ProfitsOffice.NONE, office.paid(0));
         // 150 + 7 (of 7.5) = 157, less 1 (of 1.099) = 156, of which 52 are its own; 680 of it: 35.
         Check.equal("15: surrendered", 35, office.paid(1));
         // 200 + 10 = 210, less 1 = 209; 409 + 16 = 425, less 2 = 423; the target is 465, its ratio 1162.
         Check.equal("15: matured", 464, office.paid(2));
         Check.equal("15: new", ProfitsOffice.NONE, office.paid(3));
-        badPolicies("15: paid", (o, p) -> o.paid(p));
     }
 
     private static void promise16() {
@@ -581,11 +462,6 @@ public final class PromiseTest {
         }
         // After six of seven years 600 + 342 (of 342.86).
         Check.equal("16: its part by its years, rounded down", 5652, longer.worth(0));
-
-        badPolicies("16: worth", (o, p) -> o.worth(p));
-        Check.refused("16: surrendered already", STATE, PromiseTest::mixed, o -> o.worth(1));
-        Check.refused("16: matured already", STATE, PromiseTest::mixed, o -> o.worth(2));
-        Check.refused("16: not a year old", STATE, PromiseTest::mixed, o -> o.worth(3));
     }
 
     private static void promise17() {
@@ -608,10 +484,6 @@ public final class PromiseTest {
             office.run(0);
         }
         Check.equal("17: of the longest term", 1000, office.lastRatio(20));
-        int[] bad = {1, 21, 0, -1, Integer.MIN_VALUE, Integer.MAX_VALUE};
-        for (int term : bad) {
-            outOfRange("17: lastRatio(" + term + ")", o -> o.lastRatio(term));
-        }
     }
 
     private static void promise18To20() {
