@@ -73,6 +73,11 @@ public final class FaceTest {
             }
         }
         Check.isTrue("the methods are\n" + due + "\nnot\n" + got, got.equals(due));
+        for (Class<?> inside : face.getDeclaredClasses()) {
+            for (Method method : inside.getDeclaredMethods()) {
+                privateNames.add(method.getName());
+            }
+        }
         privateNames.retainAll(publicNames);
         Check.isTrue("private methods bear names of public ones: " + privateNames, privateNames.isEmpty());
     }
